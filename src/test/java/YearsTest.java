@@ -317,6 +317,17 @@ final class YearsTest {
         }
     }
 
+    static void promise12_wellsAheadCountInTheMean() {
+        WellRights rights = new WellRights();
+        rights.addWell(2, 0, 1000, -10000, 0, 0);
+        rights.addWell(2, 50, 1000, -10000, 0, 0);
+        rights.plan(0, 7);
+        rights.plan(1, 90);
+        rights.toggleMeter(1);
+        rights.year();
+        Check.due("told 1", rights.told(1), 7);
+    }
+
     static void promise12_aStoppedWellCountsInTheMean() {
         WellRights rights = new WellRights();
         rights.addWell(0, 0, 0, 0, 0, 0);
