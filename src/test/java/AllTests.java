@@ -1,15 +1,18 @@
 import java.lang.reflect.InvocationTargetException;
 import java.lang.reflect.Method;
 import java.lang.reflect.Modifier;
+import java.util.ArrayList;
 import java.util.Arrays;
 import java.util.Comparator;
+import java.util.List;
 
 /** Runs every static method of the test classes; those that test promise N are named promiseN_what. */
 public final class AllTests {
     private static final Class<?>[] TEST_CLASSES = {
-        FaceTest.class, WellsTest.class, YearsTest.class, MetersTest.class, BanksTest.class, RandomRunsTest.class
+        FaceTest.class, WellsTest.class, YearsTest.class, MetersTest.class, BanksTest.class, RandomRunsTest.class,
+        WellRowsTest.class, YearRowsTest.class, BankRowsTest.class, TermsTest.class, OrderTest.class, SentencesTest.class
     };
-    private static final int PROMISES = 20;
+    static final int PROMISES = 20;
 
     private static int passed = 0;
     private static int failed = 0;
@@ -19,13 +22,11 @@ public final class AllTests {
 
     public static void main(String[] args) throws IllegalAccessException {
         boolean[] tested = new boolean[PROMISES + 1];
-        for (Class<?> tests : TEST_CLASSES) {
-            for (Method test : testsOf(tests)) {
-                run(test);
-                int promise = promiseOf(test.getName());
-                if (promise <= PROMISES) {
-                    tested[promise] = true;
-                }
+        for (Method test : tests()) {
+            run(test);
+            int promise = promiseOf(test);
+            if (promise <= PROMISES) {
+                tested[promise] = true;
             }
         }
         for (int promise = 1; promise <= PROMISES; promise++) {
@@ -38,6 +39,15 @@ public final class AllTests {
         if (failed > 0) {
             System.exit(1);
         }
+    }
+
+    /** The tests of all classes, one class behind the other. */
+    static List<Method> tests() {
+        List<Method> all = new ArrayList<>();
+        for (Class<?> tests : TEST_CLASSES) {
+            all.addAll(Arrays.asList(testsOf(tests)));
+        }
+        return all;
     }
 
     private static Method[] testsOf(Class<?> tests) {
@@ -60,12 +70,14 @@ public final class AllTests {
             passed++;
         } else {
             failed++;
-            System.out.println("FAILED " + name);
+            Sentence sentence = test.getAnnotation(Sentence.class);
+            System.out.println("FAILED " + name + (sentence == null ? "" : ": " + sentence.value()));
         }
     }
 
     /** The promise that a test's name tells, or 0. */
-    private static int promiseOf(String name) {
+    static int promiseOf(Method test) {
+        String name = test.getName();
         if (!name.startsWith("promise")) {
             return 0;
         }

@@ -12,6 +12,9 @@ final class RandomRunsTest {
         2000, 2001, 10000, 10001, Integer.MAX_VALUE - 1, Integer.MAX_VALUE
     };
 
+    private static final int[][] ONE_WELL = {{0, 7}};
+    private static final int[][] TWO_WELLS = {{0, 7}, {0, 7}};
+
     private long state;
 
     private RandomRunsTest(long seed) {
@@ -21,17 +24,27 @@ final class RandomRunsTest {
     static void answersAreThoseOfTheModel() {
         int before = Check.faults();
         for (int run = 0; run < RUNS && Check.faults() == before; run++) {
-            new RandomRunsTest(run).compare(run);
+            new RandomRunsTest(run).compare(run, false);
         }
     }
 
-    private void compare(int run) {
+    static void answersAtTheEdgesAreThoseOfTheModel() {
+        int before = Check.faults();
+        for (int run = 0; run < RUNS && Check.faults() == before; run++) {
+            new RandomRunsTest(-1 - run).compare(run, true);
+        }
+    }
+
+    private void compare(int run, boolean atEdges) {
         WellRights rights = new WellRights();
         Model model = new Model();
         boolean crowded = run % 2 == 0;
         for (int k = 0; k < CALLS_OF_AN_OBJECT; k++) {
             String call = CALLS[below(CALLS.length)];
             int[] arguments = argumentsOf(call, crowded);
+            if (atEdges) {
+                moveToEdges(arguments, rangesOf(call));
+            }
             String want = model.answer(call, arguments);
             String got = answer(rights, call, arguments);
             if (!got.equals(want)) {
@@ -84,6 +97,33 @@ final class RandomRunsTest {
             a[below(6)] = WILD[below(WILD.length)];
         }
         return a;
+    }
+
+    /** Puts some arguments on the first or last values of their ranges and, seldom, on the first ones outside. */
+    private void moveToEdges(int[] a, int[][] ranges) {
+        for (int k = 0; k < ranges.length; k++) {
+            int least = ranges[k][0];
+            int most = ranges[k][1];
+            int[] edges = {least, least + 1, most - 1, most};
+            if (below(3) > 0) {
+                a[k] = below(40) > 0 ? edges[below(edges.length)] : below(2) == 0 ? least - 1 : most + 1;
+            }
+        }
+    }
+
+    private static int[][] rangesOf(String call) {
+        switch (call) {
+            case "addWell": return new int[][] {{0, 2}, {0, 99}, {-10000, 10000}, {-10000, 10000}, {0, 1000}, {0, 1000}};
+            case "plan": return new int[][] {{0, 7}, {0, 2000}};
+            case "setRecharge": return new int[][] {{0, 2}, {0, 1000}};
+            case "sign": return new int[][] {{0, 7}, {0, 11}};
+            case "power": return new int[][] {{0, 7}, {0, 1000}};
+            case "lend": return new int[][] {{0, 7}, {0, 7}, {1, 10000}};
+            case "build": return new int[][] {{0, 99}};
+            case "reach":
+            case "callBack": return TWO_WELLS;
+            default: return ONE_WELL;
+        }
     }
 
     private static String answer(WellRights rights, String call, int[] a) {

@@ -3,6 +3,7 @@ final class WellsTest {
     private WellsTest() {
     }
 
+    @Sentence("Begins without wells and ponds, in the year 0, with no recharge.")
     static void promise1_newObjectIsEmpty() {
         WellRights rights = new WellRights();
         Check.due("years", rights.years(), 0);
@@ -16,6 +17,7 @@ final class WellsTest {
         Check.due("years then", rights.years(), 1);
     }
 
+    @Sentence("Begins without wells and ponds, in the year 0, with no recharge.")
     static void promise1_newObjectHasNoPondAndNoRecharge() {
         WellRights rights = new WellRights();
         rights.addWell(0, 50, 100, 0, 0, 10);
