@@ -6,13 +6,18 @@ import java.util.Arrays;
 import java.util.Comparator;
 import java.util.List;
 
-/** Runs every static method of the test classes; those that test promise N are named promiseN_what. */
+/**
+ * Runs every static method of the test classes; those that test promise N are named promiseN_what, those that test
+ * rule N of the language ruleN_what.
+ */
 public final class AllTests {
     private static final Class<?>[] TEST_CLASSES = {
-        FaceTest.class, WellsTest.class, YearsTest.class, MetersTest.class, BanksTest.class, RandomRunsTest.class,
-        WellRowsTest.class, YearRowsTest.class, BankRowsTest.class, TermsTest.class, OrderTest.class, SentencesTest.class
+        FaceTest.class, WholeTest.class, WellsTest.class, YearsTest.class, MetersTest.class, BanksTest.class,
+        RandomRunsTest.class, WellRowsTest.class, YearRowsTest.class, BankRowsTest.class, TermsTest.class,
+        OrderTest.class, SentencesTest.class, LanguageTest.class, ReadmeTest.class
     };
     static final int PROMISES = 20;
+    private static final int RULES = 13;
 
     private static int passed = 0;
     private static int failed = 0;
@@ -21,24 +26,19 @@ public final class AllTests {
     }
 
     public static void main(String[] args) throws IllegalAccessException {
-        boolean[] tested = new boolean[PROMISES + 1];
         for (Method test : tests()) {
             run(test);
-            int promise = promiseOf(test);
-            if (promise <= PROMISES) {
-                tested[promise] = true;
-            }
         }
-        for (int promise = 1; promise <= PROMISES; promise++) {
-            if (!tested[promise]) {
-                failed++;
-                System.out.println("promise " + promise + " has no test");
-            }
-        }
+        demandEach("promise", PROMISES);
+        demandEach("rule", RULES);
         System.out.println(passed + " passed, " + failed + " failed");
         if (failed > 0) {
             System.exit(1);
         }
+    }
+
+    static List<Class<?>> classes() {
+        return List.of(TEST_CLASSES);
     }
 
     /** The tests of all classes, one class behind the other. */
@@ -53,7 +53,7 @@ public final class AllTests {
     private static Method[] testsOf(Class<?> tests) {
         return Arrays.stream(tests.getDeclaredMethods())
                 .filter(m -> Modifier.isStatic(m.getModifiers()) && !Modifier.isPrivate(m.getModifiers()))
-                .filter(m -> !m.isSynthetic() && m.getParameterCount() == 0)
+                .filter(m -> !m.isSynthetic() && m.getParameterCount() == 0 && m.getReturnType() == void.class)
                 .sorted(Comparator.comparing(Method::getName))
                 .toArray(Method[]::new);
     }
@@ -75,12 +75,27 @@ public final class AllTests {
         }
     }
 
+    /** Each number up to the last one has a test. */
+    private static void demandEach(String kind, int last) {
+        for (int number = 1; number <= last; number++) {
+            int wanted = number;
+            if (tests().stream().noneMatch(test -> numberBehind(kind, test) == wanted)) {
+                failed++;
+                System.out.println(kind + " " + number + " has no test");
+            }
+        }
+    }
+
     /** The promise that a test's name tells, or 0. */
     static int promiseOf(Method test) {
+        return numberBehind("promise", test);
+    }
+
+    private static int numberBehind(String kind, Method test) {
         String name = test.getName();
-        if (!name.startsWith("promise")) {
+        if (!name.matches(kind + "\\d+_.*")) {
             return 0;
         }
-        return Integer.parseInt(name.substring("promise".length(), name.indexOf('_')));
+        return Integer.parseInt(name.substring(kind.length(), name.indexOf('_')));
     }
 }

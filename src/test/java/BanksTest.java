@@ -24,6 +24,7 @@ final class BanksTest {
         return rights;
     }
 
+    @Sentence("Returns the bank of a well.")
     static void promise15_restOfTheRightIsBanked() {
         WellRights rights = new WellRights();
         rights.addWell(0, 0, 0, -10000, 0, 100);
@@ -82,6 +83,7 @@ final class BanksTest {
         Check.due("nothing is added", rights.bank(1), 9);
     }
 
+    @Sentence("Lends water.")
     static void promise16_lentWaterIsInTheOtherBank() {
         WellRights rights = richAndPoor();
         Check.due("first", rights.lend(0, 1, 300), 300);
@@ -124,6 +126,7 @@ final class BanksTest {
         Check.due("nothing is lent", rights.lend(0, 1, 1), 1);
     }
 
+    @Sentence("Calls back what is lent, as far as the bank of the other one goes.")
     static void promise17_comesBackAsFarAsTheBankGoes() {
         WellRights rights = richAndPoor();
         rights.lend(0, 1, 1000);
@@ -164,6 +167,7 @@ final class BanksTest {
         Check.due("what is lent", rights.callBack(0, 1), 10);
     }
 
+    @Sentence("Returns all fines of a well.")
     static void promise18_twoForEachThatNoBankHas() {
         WellRights rights = new WellRights();
         rights.addWell(0, 0, 0, -10000, 0, 10);
@@ -192,6 +196,7 @@ final class BanksTest {
         Check.due("fines", rights.fines(0), 200);
     }
 
+    @Sentence("Returns the fund.")
     static void promise19_sumOfFinesLessPonds() {
         WellRights rights = withFund(2);
         rights.addWell(0, 0, 0, -10000, 0, 5);
@@ -217,6 +222,7 @@ final class BanksTest {
         Check.due("fund", rights.fund(), 100);
     }
 
+    @Sentence("Builds a pond, which costs 100 of the fund.")
     static void promise20_costsAHundred() {
         WellRights rights = withFund(0);
         rights.plan(0, 49);

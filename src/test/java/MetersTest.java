@@ -3,6 +3,7 @@ final class MetersTest {
     private MetersTest() {
     }
 
+    @Sentence("Lets the meter of a well fail, or work again.")
     static void promise13_failsAndWorksAgain() {
         WellRights rights = new WellRights();
         rights.addWell(0, 0, 1000, -10000, 0, 0);
@@ -26,6 +27,7 @@ final class MetersTest {
         Check.due("the meter worked", rights.toggleMeter(0), false);
     }
 
+    @Sentence("Tells the power of a well for this year.")
     static void promise14_threeTimesThePowerIsTold() {
         WellRights rights = new WellRights();
         rights.addWell(0, 0, 1000, -10000, 0, 100);

@@ -126,7 +126,11 @@ final class RandomRunsTest {
         }
     }
 
-    private static String answer(WellRights rights, String call, int[] a) {
+    static String[] names() {
+        return CALLS.clone();
+    }
+
+    static String answer(WellRights rights, String call, int[] a) {
         try {
             return "" + number(rights, call, a);
         } catch (RuntimeException thrown) {

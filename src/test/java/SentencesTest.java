@@ -1,15 +1,11 @@
 import java.io.IOException;
 import java.lang.reflect.Method;
-import java.nio.file.Files;
-import java.nio.file.Path;
 import java.util.ArrayList;
 import java.util.List;
 
-/** The sentences that tests quote stand in the document, and each one that names a boundary has a test of its own. */
+/** The sentences that tests quote stand in the document, and each sentence of the document has a test that quotes it. */
 final class SentencesTest {
-    private static final Path DOCUMENT = Path.of("..", "shared", "DOC.md");
-
-    /** The words under "Terms" that name a boundary. */
+    /** The words under "Terms" that name a boundary; a clause may hold several. */
     private static final String[] TERMS = {
         "there are at most 8",
         "a lower one is older",
@@ -44,14 +40,25 @@ final class SentencesTest {
     private SentencesTest() {
     }
 
+    static void theDocumentHasNoSectionThatNobodyReads() throws IOException {
+        List<String> headings = Document.headings();
+        Check.due("headings", headings.size(), 3 + AllTests.PROMISES + 1);
+        Check.dueText("first", headings.subList(0, 3).toString(), "[What it is, The public face, Terms]");
+        for (int promise = 1; promise <= AllTests.PROMISES; promise++) {
+            Check.due("promise " + promise, headings.get(2 + promise).startsWith("Promise " + promise + ":"), true);
+        }
+        Check.dueText("last", headings.get(headings.size() - 1), "Not promised");
+    }
+
     static void quotedSentencesStandInTheDocument() throws IOException {
-        String terms = section("Terms");
+        String ahead = Document.section("What it is") + Document.section("Terms");
         for (Method test : AllTests.tests()) {
             Sentence sentence = test.getAnnotation(Sentence.class);
             if (sentence != null) {
-                boolean stands = terms.contains(sentence.value())
-                        || rowsUnder(AllTests.promiseOf(test)).contains(sentence.value());
-                Check.due(test.getName() + " quotes its promise or the terms", stands, true);
+                int promise = AllTests.promiseOf(test);
+                boolean stands = ahead.contains(sentence.value())
+                        || (promise > 0 && Document.rowsUnder(promise).contains(sentence.value()));
+                Check.due(test.getName() + " quotes its promise, the terms or what it is", stands, true);
             }
         }
     }
@@ -59,43 +66,59 @@ final class SentencesTest {
     static void everyRowUnderAPromiseHasATest() throws IOException {
         for (int promise = 1; promise <= AllTests.PROMISES; promise++) {
             List<String> quoted = quotedFor(promise);
-            for (String row : rowsUnder(promise)) {
+            List<String> rows = Document.rowsUnder(promise);
+            Check.due("promise " + promise + " has rows", rows.isEmpty(), false);
+            for (String row : rows) {
                 Check.due("promise " + promise + " has a test of its own for: " + row, quoted.contains(row), true);
             }
         }
     }
 
+    static void everyClauseOfWhatItIsHasATest() throws IOException {
+        for (String clause : Document.clausesOf(Document.section("What it is"))) {
+            // What is free has nothing that a test could find wrong.
+            if (!clause.equals("what later calls answer is free")) {
+                Check.due("a test quotes: " + clause, isQuoted(clause), true);
+            }
+        }
+    }
+
+    static void everyClauseUnderTermsHasATest() throws IOException {
+        for (String clause : Document.clausesOf(Document.section("Terms"))) {
+            // FaceTest reads these out of the document itself.
+            if (!clause.contains("the interface says: ---- ")) {
+                Check.due("a test quotes: " + clause, isQuoted(clause), true);
+            }
+        }
+    }
+
     static void everyBoundaryUnderTermsHasATest() throws IOException {
-        String terms = section("Terms");
-        String quoted = quoted();
+        String terms = Document.section("Terms");
+        String quoted = String.join("\n", quoted());
         for (String boundary : TERMS) {
             Check.due("the terms have: " + boundary, terms.contains(boundary), true);
             Check.due("a test quotes: " + boundary, quoted.contains(boundary), true);
         }
     }
 
-    /** What the document says between a heading and the next one. */
-    private static String section(String heading) throws IOException {
-        String document = Files.readString(DOCUMENT);
-        int start = document.indexOf("\n## " + heading);
-        int end = document.indexOf("\n## ", start + 1);
-        return start < 0 ? "" : document.substring(start, end < 0 ? document.length() : end);
-    }
-
-    /** The lines under a promise that tell ranges, answers and exceptions; of the first promise what it begins with. */
-    private static List<String> rowsUnder(int promise) throws IOException {
-        List<String> rows = new ArrayList<>();
-        for (String line : section("Promise " + promise + ":").split("\n")) {
-            if (line.startsWith("- `") || line.startsWith("Returns ") || line.startsWith("Throws ")) {
-                rows.add(line);
-            } else if (promise == 1 && line.contains("`: ")) {
-                rows.add(line.substring(line.indexOf("`: ") + 3));
+    private static boolean isQuoted(String clause) {
+        for (String quote : quoted()) {
+            if (quote.contains(clause) || clause.contains(quote)) {
+                return true;
             }
         }
-        if (rows.isEmpty()) {
-            Check.fault("the document has no row under promise " + promise);
+        return false;
+    }
+
+    private static List<String> quoted() {
+        List<String> quoted = new ArrayList<>();
+        for (Method test : AllTests.tests()) {
+            Sentence sentence = test.getAnnotation(Sentence.class);
+            if (sentence != null) {
+                quoted.add(sentence.value());
+            }
         }
-        return rows;
+        return quoted;
     }
 
     private static List<String> quotedFor(int promise) {
@@ -107,15 +130,5 @@ final class SentencesTest {
             }
         }
         return quoted;
-    }
-
-    private static String quoted() {
-        StringBuilder all = new StringBuilder();
-        for (int promise = 1; promise <= AllTests.PROMISES; promise++) {
-            for (String sentence : quotedFor(promise)) {
-                all.append(sentence).append('\n');
-            }
-        }
-        return all.toString();
     }
 }

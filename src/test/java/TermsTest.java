@@ -1,4 +1,4 @@
-/** The words under "Terms" that name a boundary, one by one. */
+/** The words under "Terms", from the numbers of the wells to lending, one by one. */
 final class TermsTest {
     private TermsTest() {
     }
@@ -177,6 +177,24 @@ final class TermsTest {
         }
     }
 
+    @Sentence("First it is found who draws: each well that is not stopped draws what is planned for it.")
+    static void promise11_whoIsNotStoppedDrawsItsPlan() {
+        WellRights rights = atTheLimit(3);
+        rights.addWell(2, 50, 0, -10000, 9, 0);
+        rights.addWell(0, 90, 0, -10000, 9, 0);
+        int[] plans = {0, 3, 5, 0, 2000, 7};
+        int[] due = {0, 3, 0, 0, 2000, 7};
+        for (int well = 0; well < plans.length; well++) {
+            rights.plan(well, plans[well]);
+        }
+        rights.setRecharge(0, 3);
+        Check.due("well 2 is stopped", rights.wouldStop(), 4);
+        rights.year();
+        for (int well = 0; well < due.length; well++) {
+            Check.due("well " + well, rights.drew(well), due[well]);
+        }
+    }
+
     @Sentence("To begin with nobody is stopped.")
     static void promise8_nobodyIsStoppedForTwoYears() {
         WellRights rights = atTheLimit(1);
@@ -254,6 +272,61 @@ final class TermsTest {
         for (int k = 0; k < recharges.length; k++) {
             rights.setRecharge(0, recharges[k]);
             Check.due("with a recharge of " + recharges[k], rights.wouldStop(), due[k]);
+        }
+    }
+
+    @Sentence("Then all levels become the levels behind.")
+    static void promise6_allLevelsBecomeTheLevelsBehind() {
+        WellRights rights = new WellRights();
+        rights.addWell(0, 50, 100, 91, 1, 0);
+        rights.addWell(0, 51, 0, -10000, 9, 0);
+        rights.addWell(1, 50, 50, -10000, 3, 0);
+        rights.plan(0, 10);
+        rights.plan(1, 50);
+        rights.plan(2, 8);
+        rights.setRecharge(0, 5);
+        int[] stopped = {1, 2};
+        int[][] due = {{100 + 5 - 10 - 4, 0 + 5 - 9 - 3, 50 - 5 - 8}, {91 + 5 - 10, -7 + 5 - 9, 37 - 5}};
+        for (int year = 0; year < due.length; year++) {
+            Check.due("stopped", rights.year(), stopped[year]);
+            for (int well = 0; well < due[year].length; well++) {
+                Check.due("level " + well + " behind year " + year, rights.level(well), due[year][well]);
+            }
+        }
+    }
+
+    @Sentence("Then, by rising wells: its meter tells what it drew, if it works.")
+    static void promise12_metersThatWorkTellWhatWasDrawn() {
+        WellRights rights = Worlds.apart(8);
+        for (int well = 0; well < 8; well++) {
+            rights.plan(well, 3 * well + 1);
+            rights.power(well, well % 2 == 0 ? 0 : 900);
+            if (well % 2 == 0) {
+                rights.toggleMeter(well);
+            }
+        }
+        rights.year();
+        for (int well = 0; well < 8; well++) {
+            int mean = (4 + 10 + 16 + 22) / 4;
+            Check.due("well " + well, rights.told(well), well % 2 == 0 ? mean : 3 * well + 1);
+        }
+    }
+
+    @Sentence("What is told for wells with working meters is known before")
+    static void promise12_workingMetersAreKnownBefore() {
+        int[] due = {20, 19, 18, 17, 17, 16, 15, 15};
+        for (int failed = 0; failed < 8; failed++) {
+            WellRights rights = Worlds.apart(8);
+            for (int well = 0; well < 8; well++) {
+                rights.plan(well, 100);
+            }
+            rights.year();
+            for (int well = 0; well < 8; well++) {
+                rights.plan(well, 5 * well);
+            }
+            rights.toggleMeter(failed);
+            rights.year();
+            Check.due("by wells ahead of " + failed + " and behind it", rights.told(failed), due[failed]);
         }
     }
 

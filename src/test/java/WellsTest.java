@@ -52,6 +52,7 @@ final class WellsTest {
         Check.noPlace("level of the ninth", () -> rights.level(8));
     }
 
+    @Sentence("Adds a well, for which 0 is planned, with an empty bank and a meter that works.")
     static void promise2_newWellIsBare() {
         WellRights rights = new WellRights();
         rights.addWell(1, 20, 300, 200, 10, 40);
@@ -92,6 +93,7 @@ final class WellsTest {
         Check.due("first number", rights.addWell(0, 0, 0, 0, 0, 0), 0);
     }
 
+    @Sentence("Plans what a well draws in years to come.")
     static void promise3_planHoldsForYearsToCome() {
         WellRights rights = new WellRights();
         rights.addWell(0, 0, 1000, -10000, 0, 1000);
@@ -115,6 +117,7 @@ final class WellsTest {
         Check.due("plan before", rights.plan(0, 0), 12);
     }
 
+    @Sentence("Sets the recharge of a layer.")
     static void promise4_rechargeRaisesItsLayer() {
         WellRights rights = new WellRights();
         rights.addWell(0, 0, 100, 0, 0, 0);
@@ -141,6 +144,7 @@ final class WellsTest {
         Check.due("recharge before", rights.setRecharge(0, 0), 9);
     }
 
+    @Sentence("Returns the reach of a well on another one.")
     static void promise5_reachByPlaceAndLayer() {
         WellRights rights = new WellRights();
         rights.addWell(0, 50, 0, 0, 0, 0);
@@ -174,6 +178,7 @@ final class WellsTest {
         Check.noPlace("well -1", () -> rights.reach(-1, 0));
     }
 
+    @Sentence("Returns the level of a well.")
     static void promise6_levelFollowsTheYears() {
         WellRights rights = new WellRights();
         rights.addWell(0, 50, 100, -10000, 0, 0);
@@ -187,6 +192,8 @@ final class WellsTest {
         Check.noPlace("well -1", () -> rights.level(-1));
     }
 
+    @Sentence("Returns a character of the text of a well: \"layer\", its layer, \"@\" and its place, then \":\" and its number, "
+            + "such as \"layer1@20:3\".")
     static void promise7_signsOfTheText() {
         WellRights rights = new WellRights();
         rights.addWell(0, 0, 0, 0, 0, 0);

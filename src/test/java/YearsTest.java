@@ -17,6 +17,33 @@ final class YearsTest {
         Check.due("power before", rights.power(0, 0), 5);
     }
 
+    @Sentence("Lets a year pass.")
+    static void promise8_letsAYearPass() {
+        WellRights rights = new WellRights();
+        rights.addWell(0, 50, 100, 0, 1, 20);
+        rights.addWell(0, 50, 100, -10000, 9, 10);
+        rights.setRecharge(0, 7);
+        rights.plan(0, 12);
+        rights.plan(1, 30);
+        rights.toggleMeter(1);
+        rights.power(1, 5);
+        int[] level = {65, 30};
+        int[] told = {15, 12};
+        int[] bank = {8, 15};
+        int[] fines = {10, 14};
+        for (int year = 0; year < 2; year++) {
+            Check.due("stopped", rights.year(), 0);
+            Check.due("years", rights.years(), year + 1);
+            Check.due("level", rights.level(0), level[year]);
+            Check.due("drew", rights.drew(1), 30);
+            Check.due("told", rights.told(1), told[year]);
+            Check.due("bank", rights.bank(0), bank[year]);
+            Check.due("fines", rights.fines(1), fines[year]);
+            Check.due("fund", rights.fund(), fines[year]);
+            Check.due("power", rights.power(1, 0), 0);
+        }
+    }
+
     static void promise8_levelsComeFromEachDrawRoundedDown() {
         WellRights rights = new WellRights();
         rights.addWell(0, 50, 1000, -10000, 0, 1000);
@@ -66,6 +93,7 @@ final class YearsTest {
         Check.due("drew", rights.drew(1), 10);
     }
 
+    @Sentence("Returns how many years have passed.")
     static void promise9_onlyYearsCount() {
         WellRights rights = new WellRights();
         rights.addWell(0, 0, 0, 0, 0, 0);
@@ -75,6 +103,59 @@ final class YearsTest {
         rights.year();
         Check.due("years", rights.years(), 2);
         Check.due("asked again", rights.years(), 2);
+    }
+
+    /** Eight wells near one another in three layers, made up by a number. */
+    private static WellRights madeUpBy(int number) {
+        WellRights rights = new WellRights();
+        for (int well = 0; well < 8; well++) {
+            int mix = (number + 1) * (well + 3) * 7919 % 10007;
+            rights.addWell(mix % 3, 40 + mix % 14, limitOf(number, well) + mix % 40, limitOf(number, well), ageOf(number, well), 0);
+            rights.plan(well, mix % 5 == 0 ? 0 : mix % 31);
+        }
+        return rights;
+    }
+
+    private static int limitOf(int number, int well) {
+        return number * (well + 5) % 100;
+    }
+
+    private static int ageOf(int number, int well) {
+        return (number * 3 + well * well) % 6;
+    }
+
+    @Sentence("Returns the wells that would be stopped if a year passed now.")
+    static void promise10_foretellsTheYear() {
+        for (int number = 0; number < 400; number++) {
+            WellRights rights = madeUpBy(number);
+            for (int year = 0; year < 5; year++) {
+                int set = rights.wouldStop();
+                Check.due("how many of " + number, rights.year(), Integer.bitCount(set));
+                for (int well = 0; well < 8; well++) {
+                    int plan = rights.plan(well, 0);
+                    rights.plan(well, plan);
+                    boolean isStopped = (set >> well & 1) == 1;
+                    Check.due("draw of " + well + " of " + number, rights.drew(well), isStopped ? 0 : plan);
+                    Check.due("stopped without a draw", isStopped && plan == 0, false);
+                }
+            }
+        }
+    }
+
+    static void promise8_noShortWellIsReachedByAYoungerDraw() {
+        for (int number = 0; number < 400; number++) {
+            WellRights rights = madeUpBy(number);
+            rights.year();
+            for (int old = 0; old < 8; old++) {
+                for (int young = 0; young < 8; young++) {
+                    int yearsYounger = ageOf(number, young) - ageOf(number, old);
+                    boolean isYounger = yearsYounger > 0 || (yearsYounger == 0 && young > old);
+                    boolean isShort = rights.level(old) < limitOf(number, old);
+                    boolean reaches = rights.drew(young) > 0 && rights.reach(young, old) > 0;
+                    Check.due(young + " left to draw on " + old + " of " + number, isYounger && isShort && reaches, false);
+                }
+            }
+        }
     }
 
     static void promise10_changesNothing() {
@@ -240,6 +321,7 @@ final class YearsTest {
         Check.due("set", rights.wouldStop(), 2);
     }
 
+    @Sentence("Returns what a well drew in the last year.")
     static void promise11_whatWasDrawn() {
         WellRights rights = new WellRights();
         rights.addWell(0, 10, 100, 50, 0, 0);
@@ -270,6 +352,7 @@ final class YearsTest {
         Check.due("drew", rights.drew(0), 12);
     }
 
+    @Sentence("Returns what was told for a well in the last year.")
     static void promise12_meterTellsWhatWasDrawn() {
         WellRights rights = new WellRights();
         rights.addWell(0, 10, 100, 50, 0, 0);
